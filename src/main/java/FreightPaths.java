@@ -109,9 +109,10 @@ public final class FreightPaths {
 
     public boolean give(int bid) {
         Bid asked = book.at(bid);
-        if (asked == null || !search.giveTo(asked)) {
+        if (asked == null || search.endFor(asked) == NONE) {
             return false;
         }
+        asked.takePath(search.leaves, search.comes);
         run.forget();
         return true;
     }
@@ -147,7 +148,10 @@ public final class FreightPaths {
             return NONE;
         }
         int step = asked.stepAtStation(station);
-        return step == NONE ? NONE : asked.leaves[step];
+        if (step == NONE) {
+            return NONE;
+        }
+        return step == asked.steps() ? asked.comes[step] : asked.leaves[step];
     }
 
     public int why(int what) {
@@ -284,14 +288,6 @@ public final class FreightPaths {
             int section = bid.sectionAt(step);
             return bid.kind == 0 ? fastMinutes[section] : slowMinutes[section];
         }
-
-        int comesTo(Bid bid, int step) {
-            return bid.leaves[step - 1] + lengthOf(bid, step - 1);
-        }
-
-        int lastHeld(Bid bid, int step) {
-            return bid.leaves[step] + lengthOf(bid, step) - 1 + holdBehind();
-        }
     }
 
     /** A bid with the path that is given to it; its steps are its stations as they come, 0 the first one. */
@@ -307,8 +303,9 @@ public final class FreightPaths {
         final int rank;
         int partner = NONE;
         boolean hasPath;
-        /** By steps; at the last step it is the minute of coming. */
+        /** By steps: the minutes of leaving, but for the last one, and those of coming, but for the first one. */
         final int[] leaves = new int[MOST_STATIONS];
+        final int[] comes = new int[MOST_STATIONS];
         /** By stations, so that one at which it doesn't come by can have a delay too. */
         final int[] delays = new int[MOST_STATIONS];
 
@@ -337,8 +334,16 @@ public final class FreightPaths {
             return when >= 0 && when / 1000 < DAY_MINUTES && when % 1000 < DAY_MINUTES;
         }
 
+        void takePath(int[] leaving, int[] coming) {
+            for (int step = 0; step < MOST_STATIONS; step++) {
+                leaves[step] = leaving[step];
+                comes[step] = coming[step];
+            }
+            hasPath = true;
+        }
+
         int steps() {
-            return Math.abs(to - from);
+            return to > from ? to - from : from - to;
         }
 
         int way() {
@@ -354,17 +359,17 @@ public final class FreightPaths {
         }
 
         int stepAtStation(int station) {
-            if (station < Math.min(from, to) || station > Math.max(from, to)) {
-                return NONE;
+            if (to > from) {
+                return station >= from && station <= to ? station - from : NONE;
             }
-            return Math.abs(station - from);
+            return station >= to && station <= from ? from - station : NONE;
         }
 
         int stepInSection(int section) {
-            if (section < Math.min(from, to) || section >= Math.max(from, to)) {
-                return NONE;
+            if (to > from) {
+                return section >= from && section < to ? section - from : NONE;
             }
-            return to > from ? section - from : from - section - 1;
+            return section >= to && section < from ? from - section - 1 : NONE;
         }
     }
 
@@ -417,40 +422,34 @@ public final class FreightPaths {
     private static final class PathSearch {
         private final Line line;
         private final Book book;
-        /** By step and minute: whether the bid can have come to that step in that minute. */
+        /** By step and minute: whether the bid can come to that step in that minute. */
         private final boolean[] canCome = new boolean[MOST_STATIONS * DAY_MINUTES];
         /** Whether a leaving in that minute would break rule 1 or 2. */
         private final boolean[] isBlocked = new boolean[DAY_MINUTES];
         /** How many others stand in that minute. */
         private final int[] standing = new int[DAY_MINUTES];
-        private final int[] found = new int[MOST_STATIONS];
+        /** What was found last, by steps as in a bid. */
+        final int[] leaves = new int[MOST_STATIONS];
+        final int[] comes = new int[MOST_STATIONS];
 
         PathSearch(Line line, Book book) {
             this.line = line;
             this.book = book;
         }
 
-        boolean giveTo(Bid bid) {
-            if (endFor(bid) == NONE) {
-                return false;
-            }
-            for (int step = 0; step <= bid.steps(); step++) {
-                bid.leaves[step] = found[step];
-            }
-            bid.hasPath = true;
-            return true;
-        }
-
-        /** The minute of coming to the end, with the path itself in found; NONE if there is none. */
+        /** The minute of coming to the end, with the path in leaves and comes; NONE if there is none. */
         int endFor(Bid bid) {
             if (bid.earliest > bid.latest) {
                 return NONE;
             }
-            clearComings(bid, 0);
-            canCome[bid.earliest] = true;
             int steps = bid.steps();
             for (int step = 0; step < steps; step++) {
-                spread(bid, step);
+                clearMinutes(bid);
+                blockByWorks(bid, step);
+                blockByOthers(bid, step);
+                countStanding(bid, step);
+                clearComings(bid, step + 1);
+                spreadComings(bid, step);
             }
             for (int minute = bid.earliest; minute <= bid.latest; minute++) {
                 if (canCome[steps * DAY_MINUTES + minute]) {
@@ -467,32 +466,14 @@ public final class FreightPaths {
             }
         }
 
-        /** From the minutes in which it can come to a step: those in which it can come to the next one. */
-        private void spread(Bid bid, int step) {
-            int length = line.lengthOf(bid, step);
-            int here = step * DAY_MINUTES;
-            int next = here + DAY_MINUTES + length;
-            clearComings(bid, step + 1);
-            markBlocked(bid, step);
-            countStanding(bid, step);
-            int room = line.tracksAt[bid.stationAt(step)];
-            boolean isThere = false;
-            for (int minute = bid.earliest; minute + length <= bid.latest; minute++) {
-                isThere = isThere || canCome[here + minute];
-                if (isThere && !isBlocked[minute]) {
-                    canCome[next + minute] = true;
-                }
-                // To wait at the first station is not to stand there.
-                if (step > 0 && standing[minute] >= room) {
-                    isThere = false;
-                }
+        private void clearMinutes(Bid bid) {
+            for (int minute = bid.earliest; minute <= bid.latest; minute++) {
+                isBlocked[minute] = false;
+                standing[minute] = 0;
             }
         }
 
-        private void markBlocked(Bid bid, int step) {
-            for (int minute = bid.earliest; minute <= bid.latest; minute++) {
-                isBlocked[minute] = false;
-            }
+        private void blockByWorks(Bid bid, int step) {
             int section = bid.sectionAt(step);
             int length = line.lengthOf(bid, step);
             for (int i = 0; i < line.worksCame; i++) {
@@ -500,13 +481,19 @@ public final class FreightPaths {
                     block(line.worksFrom[i] - length + 1, line.worksTo[i] - 1);
                 }
             }
-            for (int i = 0; i < book.size(); i++) {
+        }
+
+        private void blockByOthers(Bid bid, int step) {
+            int section = bid.sectionAt(step);
+            int length = line.lengthOf(bid, step);
+            int behind = line.holdBehind();
+            for (int i = 0; i < book.bids.size(); i++) {
                 Bid other = book.bids.get(i);
                 int otherStep = other.stepInSection(section);
                 if (other != bid && other.hasPath && otherStep != NONE && line.isShared(section, bid, other)) {
                     // Neither may be in the section while the other one holds it.
-                    int lastToGoAhead = other.leaves[otherStep] - length - line.holdBehind();
-                    block(lastToGoAhead + 1, line.lastHeld(other, otherStep));
+                    int lastToGoAhead = other.leaves[otherStep] - length - behind;
+                    block(lastToGoAhead + 1, other.comes[otherStep + 1] - 1 + behind);
                 }
             }
         }
@@ -519,30 +506,46 @@ public final class FreightPaths {
         }
 
         private void countStanding(Bid bid, int step) {
-            for (int minute = bid.earliest; minute <= bid.latest; minute++) {
-                standing[minute] = 0;
-            }
             int station = bid.stationAt(step);
-            for (int i = 0; i < book.size(); i++) {
+            for (int i = 0; i < book.bids.size(); i++) {
                 Bid other = book.bids.get(i);
                 int otherStep = other.stepAtStation(station);
                 if (other != bid && other.hasPath && otherStep > 0 && otherStep < other.steps()) {
-                    for (int minute = line.comesTo(other, otherStep); minute < other.leaves[otherStep]; minute++) {
+                    for (int minute = other.comes[otherStep]; minute < other.leaves[otherStep]; minute++) {
                         standing[minute]++;
                     }
                 }
             }
         }
 
-        /** The latest coming to each step is that which stands least there. */
+        /** From the minutes in which it can come to a step: those in which it can come to the next one. */
+        private void spreadComings(Bid bid, int step) {
+            int length = line.lengthOf(bid, step);
+            int room = line.tracksAt[bid.stationAt(step)];
+            int here = step * DAY_MINUTES;
+            int next = here + DAY_MINUTES + length;
+            // To wait at the first station is not to stand there, so nothing ends that.
+            boolean isThere = step == 0;
+            for (int minute = bid.earliest; minute + length <= bid.latest; minute++) {
+                isThere = isThere || step > 0 && canCome[here + minute];
+                if (isThere && !isBlocked[minute]) {
+                    canCome[next + minute] = true;
+                }
+                if (step > 0 && standing[minute] >= room) {
+                    isThere = false;
+                }
+            }
+        }
+
+        /** The latest coming to a step is that which stands least there. */
         private void traceBack(Bid bid, int end) {
             int coming = end;
-            found[bid.steps()] = end;
             for (int step = bid.steps() - 1; step >= 0; step--) {
                 int leaving = coming - line.lengthOf(bid, step);
-                found[step] = leaving;
+                comes[step + 1] = coming;
+                leaves[step] = leaving;
                 coming = leaving;
-                while (coming > bid.earliest && !canCome[step * DAY_MINUTES + coming]) {
+                while (step > 0 && coming > bid.earliest && !canCome[step * DAY_MINUTES + coming]) {
                     coming--;
                 }
             }
@@ -633,11 +636,16 @@ public final class FreightPaths {
         private int comeWithPartner(Bid bid) {
             Bid partner = book.at(bid.partner);
             hasCome[bid.number] = true;
+            boolean found = search.endFor(bid) != NONE;
+            if (found) {
+                bid.takePath(search.leaves, search.comes);
+            }
             if (partner == null) {
-                return search.giveTo(bid) ? 0 : bid.worth;
+                return found ? 0 : bid.worth;
             }
             hasCome[partner.number] = true;
-            if (search.giveTo(bid) && search.giveTo(partner)) {
+            if (found && search.endFor(partner) != NONE) {
+                partner.takePath(search.leaves, search.comes);
                 return 0;
             }
             bid.hasPath = false;
@@ -696,8 +704,7 @@ public final class FreightPaths {
 
         private int firstClosed(Bid bid) {
             for (int step = 0; step < bid.steps(); step++) {
-                int out = bid.leaves[step] + line.lengthOf(bid, step);
-                for (int m = bid.leaves[step]; m < out; m++) {
+                for (int m = bid.leaves[step]; m < bid.comes[step + 1]; m++) {
                     if (line.isClosed(bid.sectionAt(step), m)) {
                         return m;
                     }
@@ -708,8 +715,7 @@ public final class FreightPaths {
 
         private int firstHeld(Bid bid) {
             for (int step = 0; step < bid.steps(); step++) {
-                int out = bid.leaves[step] + line.lengthOf(bid, step);
-                for (int m = bid.leaves[step]; m < out; m++) {
+                for (int m = bid.leaves[step]; m < bid.comes[step + 1]; m++) {
                     if (isHeldByOther(bid, bid.sectionAt(step), m)) {
                         return m;
                     }
@@ -723,7 +729,7 @@ public final class FreightPaths {
                 Bid other = book.bids.get(i);
                 int step = other.stepInSection(section);
                 if (other != bid && other.hasPath && step != NONE && line.isShared(section, bid, other)
-                        && m >= other.leaves[step] && m <= line.lastHeld(other, step)) {
+                        && m >= other.leaves[step] && m < other.comes[step + 1] + line.holdBehind()) {
                     return true;
                 }
             }
@@ -733,7 +739,7 @@ public final class FreightPaths {
         private int firstCrowded(Bid bid) {
             for (int step = 1; step < bid.steps(); step++) {
                 int station = bid.stationAt(step);
-                for (int m = line.comesTo(bid, step); m < bid.leaves[step]; m++) {
+                for (int m = bid.comes[step]; m < bid.leaves[step]; m++) {
                     if (standingAt(station, m) > line.tracksAt[station]) {
                         return m;
                     }
@@ -748,7 +754,7 @@ public final class FreightPaths {
                 Bid bid = book.bids.get(i);
                 int step = bid.stepAtStation(station);
                 if (bid.hasPath && step > 0 && step < bid.steps()
-                        && m >= line.comesTo(bid, step) && m < bid.leaves[step]) {
+                        && m >= bid.comes[step] && m < bid.leaves[step]) {
                     standing++;
                 }
             }
@@ -848,7 +854,7 @@ public final class FreightPaths {
             if (stepOf[train] < bid.steps() || end >= RUN_MINUTES) {
                 return NONE;
             }
-            int late = end - bid.leaves[bid.steps()];
+            int late = end - bid.comes[bid.steps()];
             switch (what) {
                 case 0:
                     return end;

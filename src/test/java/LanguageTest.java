@@ -1,6 +1,8 @@
 import java.io.IOException;
 import java.nio.file.Files;
 import java.nio.file.Path;
+import java.util.Map;
+import java.util.TreeMap;
 import java.util.regex.Matcher;
 import java.util.regex.Pattern;
 
@@ -29,6 +31,7 @@ public final class LanguageTest {
             Due.due("static field " + statics.group(1).trim(), statics.group(1).startsWith("final "), true);
         }
         shortMethods(text);
+        shallowCalls(code);
         Due.finish("LanguageTest");
     }
 
@@ -44,5 +47,31 @@ public final class LanguageTest {
                 Due.due("lines of " + lines[start].trim() + ": " + (end - start), end - start < 60, true);
             }
         }
+    }
+
+    /** By names alone, so two methods of one name count as one; a library's method is a level too. */
+    private static void shallowCalls(String code) {
+        Map<String, String> bodies = new TreeMap<>();
+        Matcher heads = Pattern.compile("(?m)^( {4}| {8})(?! )[\\w<>\\[\\] ]*?(\\w+)\\([^)]*\\) \\{$").matcher(code);
+        while (heads.find()) {
+            int end = code.indexOf("\n" + heads.group(1) + "}", heads.end());
+            bodies.merge(heads.group(2), code.substring(heads.end(), end), String::concat);
+        }
+        Due.due("methods are seen", bodies.size() > 50, true);
+        for (String name : bodies.keySet()) {
+            int depth = depthOf(name, bodies, 0);
+            Due.due("calls below " + name + ": " + depth, depth <= 8, true);
+        }
+    }
+
+    private static int depthOf(String name, Map<String, String> bodies, int open) {
+        int deepest = 0;
+        Matcher calls = Pattern.compile("\\b(\\w+)\\(").matcher(open > 30 ? "" : bodies.getOrDefault(name, ""));
+        while (calls.find()) {
+            if (!calls.group(1).equals(name)) {
+                deepest = Math.max(deepest, depthOf(calls.group(1), bodies, open + 1));
+            }
+        }
+        return deepest + 1;
     }
 }

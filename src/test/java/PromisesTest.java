@@ -130,6 +130,17 @@ public final class PromisesTest {
         due("3: most tracks", x.tracks(2, 9), true);
         due("3: none at the ends", x.tracks(0, 0) && x.tracks(2, 0), true);
         due("3: at the ends none stands", x.find(1), 30);
+
+        FreightPaths y = lineOnWhichOneMustStand();
+        y.bid(1200, 99, 1, 0);
+        y.bid(100, 99, 1, 0);
+        y.bid(200, 99, 1, 0);
+        y.tracks(1, 1);
+        y.give(0);
+        y.give(1);
+        path("3: it waits at its first station", y, 0, NONE, 20, 25);
+        path("3: it ends at the station", y, 1, 0, 5);
+        due("3: neither stands there", y.find(2), 30);
     }
 
     private static void promise4Headway() {
@@ -405,6 +416,21 @@ public final class PromisesTest {
         due("12: more than five", like.best(), NONE);
         due("12: nothing changes", like.count(2), 4);
 
+        FreightPaths one = new FreightPaths(2);
+        one.bid(100, 99, 77, 0);
+        due("12: one bid", one.best(), 77);
+        path("12: one bid", one, 0, 0, 5);
+
+        FreightPaths behind = new FreightPaths(2);
+        behind.bid(100, 10, 1, 0);
+        behind.bid(100, 10, 1, 0);
+        behind.bid(100, 10, 50, 0);
+        behind.bid(100, 10, 50, 0);
+        behind.link(0, 1);
+        due("12: linked ones ahead of dearer ones aren't the best", behind.best(), 100);
+        due("12: they have none", behind.path(0, 0) == NONE && behind.path(1, 0) == NONE, true);
+        path("12: the first one of the dearer ones", behind, 2, 0, 5);
+
         FreightPaths linked = new FreightPaths(2);
         linked.bid(100, 5, 10, 0);
         linked.bid(100, 99, 2, 0);
@@ -574,6 +600,34 @@ public final class PromisesTest {
         end.works(0, 474, 475);
         ranRow("16: it doesn't come till 479", end, 0, NONE, NONE, NONE, NONE, NONE, NONE);
         promise16RanHolds();
+        promise16RanAgain();
+    }
+
+    private static void promise16RanAgain() {
+        FreightPaths x = new FreightPaths(2);
+        x.bid(100, 99, 1, 1);
+        x.bid(100, 5099, 9, 0);
+        x.give(0);
+        x.delay(0, 0, 3);
+        ranRow("16: one alone", x, 0, 8, 3, 3, 0, 0, 0);
+        x.give(1);
+        ranRow("16: another one is given", x, 1, 13, 3, 0, 0, 3, 0);
+        x.drop(0);
+        ranRow("16: the first one is dropped", x, 1, 10, 0, 0, 0, 0, 0);
+        x.round();
+        ranRow("16: a round", x, 1, 13, 3, 0, 0, 3, 0);
+        x.works(0, 0, 5);
+        ranRow("16: works come", x, 0, 15, 10, 3, 2, 5, 0);
+        x.round();
+        ranRow("16: a round with the works", x, 0, 18, 3, 3, 0, 0, 0);
+        x.delay(1, 0, 4);
+        ranRow("16: another delay", x, 1, 14, 4, 4, 0, 0, 0);
+        x.headway(3);
+        ranRow("16: another headway", x, 0, 21, 6, 3, 0, 3, 0);
+        x.delay(1, 0, 0);
+        x.best();
+        ranRow("16: the best", x, 0, 13, 3, 3, 0, 0, 0);
+        ranRow("16: the best, the other one", x, 1, 20, 3, 0, 0, 3, 0);
     }
 
     private static void promise16RanHolds() {
@@ -636,6 +690,13 @@ public final class PromisesTest {
         x.delay(1, 0, 4);
         due("17: it never came", x.ran(2, 0), NONE);
         due("17: but its minutes are put down", x.blame(2, 1), 2);
+
+        FreightPaths y = new FreightPaths(2);
+        y.bid(100, 99, 1, 0);
+        y.bid(100, 99, 1, 1);
+        y.round();
+        y.works(0, 0, 478);
+        due("17: 479 is the last minute", y.blame(1, 0), 2);
     }
 
     private static void promise18Balance() {
