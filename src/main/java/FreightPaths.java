@@ -569,7 +569,7 @@ public final class FreightPaths {
 
         void comeByRank() {
             startAnew();
-            for (int i = 0; i < book.size(); i++) {
+            for (int i = 0; i < book.byRank.size(); i++) {
                 Bid bid = book.byRank.get(i);
                 if (!hasCome[bid.number]) {
                     comeWithPartner(bid);
@@ -588,7 +588,10 @@ public final class FreightPaths {
             tryOrders(this, 0, allWorths);
             startAnew();
             for (int i = 0; i < bestLength; i++) {
-                comeWithPartner(book.bids.get(bestOrder[i]));
+                Bid bid = book.at(bestOrder[i]);
+                if (bid != null) {
+                    comeWithPartner(bid);
+                }
             }
         }
 
@@ -604,7 +607,7 @@ public final class FreightPaths {
             boolean allCame = true;
             for (int i = 0; i < rounds.book.size() && depth < MOST_BIDS_FOR_BEST; i++) {
                 Bid bid = rounds.book.bids.get(i);
-                if (!rounds.hasCome[i]) {
+                if (!rounds.hasCome[i] && reachable > rounds.bestWorth) {
                     allCame = false;
                     rounds.order[depth] = i;
                     int lost = rounds.comeWithPartner(bid);
@@ -794,7 +797,7 @@ public final class FreightPaths {
             }
             reset();
             for (int minute = 0; minute < RUN_MINUTES; minute++) {
-                for (int i = 0; i < book.size(); i++) {
+                for (int i = 0; i < book.byRank.size(); i++) {
                     Bid bid = book.byRank.get(i);
                     if (wantsToLeave(bid, minute)) {
                         leaveOrPutDown(bid, minute);
