@@ -18,6 +18,15 @@ final class Due {
         due(call, got ? 1 : 0, want ? 1 : 0);
     }
 
+    /** Answers that were compared elsewhere. */
+    static void add(int answers, Iterable<String> notAsDue) {
+        asked += answers;
+        for (String each : notAsDue) {
+            wrong++;
+            System.out.println(each);
+        }
+    }
+
     static void finish(String test) {
         System.out.println(test + ": " + asked + " answers, " + wrong + " not as due");
         if (wrong != 0 || asked == 0) {
