@@ -12,6 +12,8 @@ public final class SlowModelTest {
     private int bids;
     /** How many minutes wide the bids of this run ask. */
     private int span;
+    /** Whether they ask for the end of the day, so that late trains come near the last minute of the run. */
+    private boolean isLate;
 
     private SlowModelTest(int run) {
         this.run = run;
@@ -37,6 +39,7 @@ public final class SlowModelTest {
     private void go() {
         stations = chance.nextInt(3) == 0 ? 2 + chance.nextInt(7) : 2 + chance.nextInt(3);
         span = 10 + chance.nextInt(chance.nextInt(4) == 0 ? 230 : 50);
+        isLate = chance.nextInt(4) == 0;
         x = new FreightPaths(stations);
         model = new SlowModel(stations);
         int most = chance.nextBoolean() ? 5 : 16;
@@ -73,7 +76,8 @@ public final class SlowModelTest {
         int from = chance.nextInt(stations);
         int to = (from + 1 + chance.nextInt(stations - 1)) % stations;
         int what = chance.nextInt(6) * 10000 + from * 1000 + to * 100 + chance.nextInt(2) * 10;
-        int earliest = chance.nextInt(chance.nextInt(3) == 0 ? 60 : 10);
+        int earliest = (isLate ? Math.max(0, 225 - span) : 0) + chance.nextInt(chance.nextInt(3) == 0 ? 60 : 10);
+        earliest = Math.min(239, earliest);
         int latest = Math.min(239, chance.nextInt(20) == 0 ? chance.nextInt(240) : earliest + span / 2 + chance.nextInt(span));
         int worth = chance.nextInt(chance.nextBoolean() ? 5 : 1001);
         int rank = chance.nextInt(chance.nextBoolean() ? 4 : 100);
@@ -105,7 +109,7 @@ public final class SlowModelTest {
             }
             case 3 -> {
                 int k = some(stations - 2);
-                int from = chance.nextInt(5) == 0 ? some(480) : some(60);
+                int from = chance.nextInt(5) == 0 ? some(480) : some(60) + (isLate ? 180 + chance.nextInt(240) : 0);
                 int to = chance.nextInt(5) == 0 ? some(480) : from + some(20);
                 due("works", one(x.works(k, from, to)), one(model.works(k, from, to)));
             }
@@ -119,7 +123,7 @@ public final class SlowModelTest {
                 }
             }
             default -> {
-                int minutes = some(chance.nextBoolean() ? 8 : 60);
+                int minutes = isLate ? 60 - some(8) : some(chance.nextBoolean() ? 8 : 60);
                 due("delay", one(x.delay(a, station, minutes)), one(model.delay(a, station, minutes)));
             }
         }
